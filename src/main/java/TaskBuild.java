@@ -324,7 +324,7 @@ public final class TaskBuild {
         private final int[] toldBefore;
         /** Whom it comes behind, also over others; held so that a ring is seen before it is closed. */
         private final int[] allBefore;
-        /** Used anew for each ring: layer n has those from which the ring's end is n needs away. */
+        /** Used anew for each ring: layer n has those from which a way of n needs leads to the ring's end. */
         private final int[] layer;
         private final int[] told;
         private int toldCount;
@@ -350,7 +350,10 @@ public final class TaskBuild {
             }
         }
 
-        /** Layers by distance to a first: then the least next one at each step gives the least of the shortest ways. */
+        /**
+         * Layers are made from a back to the first that has b, so each way down through them is a shortest one;
+         * the least next runnable at each step then makes the least of these.
+         */
         void tellRing(int a, int b) {
             int distance = layersFrom(a, b);
             told[0] = b;
@@ -377,11 +380,9 @@ public final class TaskBuild {
         /** Fills the layers from a on, until b is in one: that one's number. */
         private int layersFrom(int a, int b) {
             layer[0] = 1 << a;
-            int seen = layer[0];
             int n = 0;
             while (n < layer.length - 1 && !isIn(layer[n], b)) {
-                layer[n + 1] = toldBeforeAny(layer[n]) & ~seen;
-                seen |= layer[n + 1];
+                layer[n + 1] = toldBeforeAny(layer[n]);
                 n++;
             }
             return n;

@@ -158,6 +158,9 @@ public final class PromisesTest {
         for (int d = 2; d <= 20; d++) {
             due.is("area(2, " + -d + ")", x.area(2, -d), d);
         }
+        TaskBuild full = withRunnables(24, 10, 1);
+        due.is("area(24, 7)", full.area(24, 7), 1);
+        due.is("area(24, -8)", full.area(24, -8), 2);
     }
 
     private static void build() {
@@ -212,6 +215,14 @@ public final class PromisesTest {
         due.is("rank(13)", events.rank(13), 12);
         dueOrder(events, 24, 24);
 
+        TaskBuild shared = new TaskBuild();
+        shared.runnable(1, 1, 1);
+        for (int i = 1; i <= 12; i++) {
+            shared.runnable(i, 1, 1);
+        }
+        due.is("build() with 12 of a core, 1 and 2 in one", shared.build(), 12);
+        dueOrder(shared, 1, 1, 2);
+
         TaskBuild lastCore = new TaskBuild();
         for (int i = 1; i <= 13; i++) {
             lastCore.runnable(i, 4, 1);
@@ -253,6 +264,15 @@ public final class PromisesTest {
         due.is("order(2, 0)", x.order(2, 0), -1);
         due.is("order(LEAST, 0)", x.order(LEAST, 0), -1);
         due.is("order(MOST, -1)", x.order(MOST, -1), -1);
+
+        TaskBuild several = withRunnables(24, 10, 1);
+        for (int r = 24; r > 1; r--) {
+            several.needs(r, 1, false);
+        }
+        several.needs(23, 24, false);
+        several.needs(24, 2, false);
+        several.build();
+        dueOrder(several, 1, 3, 4, 5, 6, 7, 8, 9, 10, 11, 12, 13, 14, 15, 16, 17, 18, 19, 20, 21, 22, 23, 24, 2, 1);
 
         TaskBuild over = new TaskBuild();
         over.runnable(10, 1, 1);
@@ -322,6 +342,17 @@ public final class PromisesTest {
         due.is("buffer(21)", x.buffer(21), -2);
         due.is("buffer(LEAST)", x.buffer(LEAST), -2);
         due.is("buffer(MOST)", x.buffer(MOST), -2);
+
+        TaskBuild ends = new TaskBuild();
+        ends.runnable(20, 1, 1);
+        ends.runnable(0, 1, 1);
+        ends.area(1, 1);
+        ends.area(2, -1);
+        ends.area(1, -2);
+        ends.area(2, 2);
+        ends.build();
+        due.is("buffer(1): the first reads, the last writes", ends.buffer(1), 1);
+        due.is("buffer(2): the other way round", ends.buffer(2), 0);
     }
 
     private static void table() {
@@ -410,6 +441,20 @@ public final class PromisesTest {
         astray.needs(4, 6, false);
         astray.needs(6, 1, false);
         dueRing(astray, 1, 4, 6);
+
+        // Several come before one, and the ring's ends are the greatest numbers.
+        TaskBuild several = withRunnables(24, 10, 1);
+        several.needs(24, 3, false);
+        several.needs(24, 2, false);
+        several.needs(2, 23, false);
+        several.needs(3, 23, false);
+        several.needs(1, 23, false);
+        several.needs(23, 24, false);
+        dueRing(several, 24, 2, 23);
+        several.needs(3, 24, false);
+        dueRing(several, 24, 3);
+        several.needs(23, 2, false);
+        dueRing(several, 2, 23);
 
         TaskBuild delayed = withRunnables(3, 10, 1);
         delayed.needs(1, 3, true);
