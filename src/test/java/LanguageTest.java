@@ -5,6 +5,7 @@ import java.lang.reflect.Method;
 import java.lang.reflect.Modifier;
 import java.nio.file.Files;
 import java.nio.file.Path;
+import java.util.Arrays;
 import java.util.List;
 import java.util.Set;
 import java.util.TreeSet;
@@ -29,6 +30,7 @@ public final class LanguageTest {
         face();
         members();
         text();
+        everyCallEnds();
         due.end();
     }
 
@@ -95,6 +97,41 @@ public final class LanguageTest {
             due.holds(method + " has no name of the face, being private",
                 !Modifier.isPrivate(method.getModifiers()) || !isNameOfFace(method.getName()));
         }
+    }
+
+    /** With numbers of every kind, in many states, and far behind the 512th call: a throw would end this test. */
+    private static void everyCallEnds() {
+        due.part("rule 7, no call may ever throw");
+        callsOn(new TaskBuild());
+        TaskBuild full = new TaskBuild();
+        for (int n = 0; n < 24; n++) {
+            full.runnable(n % 3, 1 + n % 2, n);
+        }
+        due.is("build()", full.build(), 12);
+        callsOn(full);
+    }
+
+    private static void callsOn(TaskBuild x) {
+        int[] numbers = {Integer.MIN_VALUE, -33, -21, -20, -1, 0, 1, 2, 12, 13, 20, 21, 24, 25, 26, 32, 33, 40, 41,
+            1000, 1001, 100000, 100001, Integer.MAX_VALUE};
+        for (int a : numbers) {
+            for (int b : numbers) {
+                int least = Math.min(changing(x, a, b), Math.min(x.build(), telling(x, a, b)));
+                least = Math.min(least, changing(x, b, a));
+                due.holds("answers for " + a + " and " + b + " are -4 or more", least >= -4);
+            }
+        }
+    }
+
+    private static int changing(TaskBuild x, int a, int b) {
+        int needs = Math.min(x.needs(a, b, false), x.needs(a, b, true));
+        return Math.min(Math.min(x.runnable(a, b, a), x.runnable(a, 1, b)), Math.min(needs, x.area(a, b)));
+    }
+
+    private static int telling(TaskBuild x, int a, int b) {
+        int[] answers = {x.task(a), x.order(a, b), x.rank(a), x.buffer(a), x.table(a, b), x.ring(a), x.cross(a),
+            x.budget(a, b), x.budget(a, b * (1L << 32)), x.differ(a)};
+        return Arrays.stream(answers).min().getAsInt();
     }
 
     private static void text() throws IOException {
